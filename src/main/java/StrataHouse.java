@@ -19,6 +19,7 @@ public final class StrataHouse {
     private static final int END_OF_TERMS = FIRST_VARIABLE + VARIABLES;
     private static final int ROWS = RELATIONS * CONSTANTS;
     private static final int FACTS = ROWS * CONSTANTS;
+    private static final int ALL_RELATIONS = (1 << RELATIONS) - 1;
     private static final int ALL_CONSTANTS = (1 << CONSTANTS) - 1;
     private static final int ALL_VARIABLES = ((1 << VARIABLES) - 1) << FIRST_VARIABLE;
     private static final int NOT_LAYERED = 100;
@@ -32,6 +33,7 @@ public final class StrataHouse {
 
     private final int[] layers = new int[RELATIONS];
     private final int[] ranks = new int[FACTS];
+    private final int[] fresh = new int[ROWS];
     private final Match match = new Match();
     private int faultFound = NONE;
 
@@ -323,11 +325,12 @@ public final class StrataHouse {
         rankGiven();
         int top = topLayer();
         for (int layer = 0; layer <= top; layer++) {
-            boolean brought = true;
+            look(layer, 1);
+            int changed = ALL_RELATIONS;
             // Each round but the last brings a fact, so there is at most one round more than facts.
-            for (int round = 1; brought && round <= FACTS + 1; round++) {
-                look(layer, round);
-                brought = bringRound(layer, round);
+            for (int round = 1; changed != 0 && round <= FACTS + 1; round++) {
+                bringRound(layer, round, changed);
+                changed = showFresh();
             }
         }
         settled = true;
@@ -341,18 +344,19 @@ public final class StrataHouse {
         }
     }
 
-    private boolean bringRound(int layer, int round) {
-        boolean brought = false;
+    // Behind the first round a rule brings something only if the round before changed a relation
+    // that it builds on: all else it has brought already.
+    private void bringRound(int layer, int round, int changed) {
         for (int i = 0; i < ruleCount; i++) {
-            if (layers[rules[i].head.relation] == layer && bringByRule(rules[i], round)) {
-                brought = true;
+            Rule rule = rules[i];
+            if (layers[rule.head.relation] == layer
+                    && (round == 1 || (rule.positiveRelations & changed) != 0)) {
+                bringByRule(rule, round);
             }
         }
-        return brought;
     }
 
-    private boolean bringByRule(Rule rule, int round) {
-        boolean brought = false;
+    private void bringByRule(Rule rule, int round) {
         Atom head = rule.head;
         match.forget();
         int firsts = match.choices(rule, head.first);
@@ -360,24 +364,37 @@ public final class StrataHouse {
             if (!hasBit(firsts, first)) {
                 continue;
             }
+            int row = rowAt(head.relation, first);
+            int held = match.sight.secondsByFirst[row] | fresh[row];
             match.forget();
             match.bind(head.first, first);
-            int seconds = match.choices(rule, head.second);
-            for (int second = 0; second < CONSTANTS; second++) {
-                int fact = factAt(head.relation, first, second);
-                if (hasBit(seconds, second) && ranks[fact] == NONE
-                        && match.meets(rule, head.relation, first, second)
+            int seconds = match.choices(rule, head.second) & ~held;
+            for (int second = 0; seconds != 0 && second < CONSTANTS; second++) {
+                if (hasBit(seconds, second) && match.meets(rule, head.relation, first, second)
                         && match.findLeast(rule, FIRST_VARIABLE)) {
-                    ranks[fact] = round;
-                    brought = true;
+                    ranks[row * CONSTANTS + second] = round;
+                    fresh[row] |= 1 << second;
                 }
             }
         }
-        return brought;
     }
 
-    // Facts of the layer itself are seen with a rank below the limit alone. What a round brings is
-    // not seen before the next look, so the rules of one round don't build on one another.
+    // What a round brings is seen behind it alone, so that its rules don't build on one another.
+    private int showFresh() {
+        int changed = 0;
+        for (int row = 0; row < ROWS; row++) {
+            for (int second = 0; fresh[row] != 0 && second < CONSTANTS; second++) {
+                if (hasBit(fresh[row], second)) {
+                    match.sight.show(row / CONSTANTS, row % CONSTANTS, second);
+                    changed |= 1 << row / CONSTANTS;
+                }
+            }
+            fresh[row] = 0;
+        }
+        return changed;
+    }
+
+    // Facts of the layer itself are seen with a rank below the limit alone, those below it all.
     private void look(int layer, int limit) {
         match.sight.forget();
         for (int i = 0; i < relationCount; i++) {
@@ -433,6 +450,7 @@ public final class StrataHouse {
         private int size;
         private int variables;
         private int positiveVariables;
+        private int positiveRelations;
 
         private Rule() {
             for (int i = 0; i < LITERALS; i++) {
@@ -445,6 +463,7 @@ public final class StrataHouse {
             size = 0;
             variables = head.variables();
             positiveVariables = 0;
+            positiveRelations = 0;
         }
 
         private boolean isFull() {
@@ -461,6 +480,7 @@ public final class StrataHouse {
             variables |= literal.variables();
             if (!negated) {
                 positiveVariables |= literal.variables();
+                positiveRelations |= 1 << relation;
             }
         }
 
