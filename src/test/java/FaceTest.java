@@ -51,7 +51,7 @@ public final class FaceTest {
             addOpen(open, made.getModifiers(), made.toGenericString());
         }
         for (Method method : house.getDeclaredMethods()) {
-            addOpen(open, method.getModifiers(), method.toGenericString().replace("StrataHouse.StrataHouse", "StrataHouse"));
+            addOpen(open, method.getModifiers(), method.toGenericString());
         }
         return open;
     }

@@ -110,7 +110,7 @@ public final class ModelTest {
     }
 
     private void makeHead(boolean wild) {
-        int r = wild || relations < 3 ? someRelation() : 1 + pick(relations - 1);
+        int r = wild || relations < 3 || rarely(6) ? someRelation() : 1 + pick(relations - 1);
         int a = wild ? someTerm() : rarely(8) ? pick(12) : 20 + pick(2);
         int b = wild ? someTerm() : rarely(8) ? pick(12) : 20 + pick(3);
         compare("rule(" + r + ", " + a + ", " + b + ")", () -> house.rule(r, a, b), () -> model.rule(r, a, b));

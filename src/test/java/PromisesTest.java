@@ -27,6 +27,7 @@ public final class PromisesTest {
         test.layer();
         test.count();
         test.rank();
+        test.rankOfFirstAndLast();
         test.rankOverLayers();
         test.longRanks();
         test.ways();
@@ -377,6 +378,27 @@ public final class PromisesTest {
         due.is("by the new rule", () -> x.rank(1, 0, 4), 3);
         x.give(1, 0, 4);
         due.is("sooner by a given one", () -> x.rank(1, 0, 5), 1);
+    }
+
+    /** What comes is built on in the next round, at either end of the relations and constants. */
+    private void rankOfFirstAndLast() {
+        StrataHouse x = new StrataHouse();
+        for (int i = 0; i < 8; i++) {
+            x.relation(2);
+        }
+        x.rule(0, 0, 0);
+        x.rule(0, 0, 11);
+        x.literal(0, 0, 0, false);
+        x.rule(7, 11, 20);
+        x.literal(0, 0, 20, false);
+        x.rule(7, 20, 0);
+        x.literal(7, 20, 11, false);
+        due.is("the first", () -> x.rank(0, 0, 0), 1);
+        due.is("by the first", () -> x.rank(0, 0, 11), 2);
+        due.is("the last", () -> x.rank(7, 11, 11), 3);
+        due.is("one soon", () -> x.rank(7, 11, 0), 2);
+        due.is("its ways", () -> x.ways(7, 11, 0), 2);
+        due.is("its proof", () -> x.proof(7, 11, 0, 0), 2);
     }
 
     private void rankOverLayers() {
