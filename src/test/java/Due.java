@@ -5,17 +5,27 @@ final class Due {
     }
 
     private int wrong;
+    private String sentence = "";
 
     static String answerOf(Call call) {
         try {
             return Long.toString(call.run());
         } catch (RuntimeException e) {
-            return "throws." + e.getClass().getSimpleName();
+            return thrown(e.getClass());
         }
+    }
+
+    static String thrown(Class<? extends RuntimeException> kind) {
+        return "throws." + kind.getSimpleName();
     }
 
     static long bit(boolean answer) {
         return answer ? 1 : 0;
+    }
+
+    /** Where in the document, and in which words, stands what is due from here on. */
+    void sentence(String placeAndWords) {
+        sentence = placeAndWords + " | ";
     }
 
     void is(String what, Call call, long want) {
@@ -23,13 +33,13 @@ final class Due {
     }
 
     void raises(String what, Call call, Class<? extends RuntimeException> want) {
-        same(what, answerOf(call), "throws." + want.getSimpleName());
+        same(what, answerOf(call), thrown(want));
     }
 
     void same(String what, String got, String want) {
         if (!got.equals(want)) {
             wrong++;
-            System.out.println(what + " answered " + got + ", due is " + want);
+            System.out.println(sentence + what + " answered " + got + ", due is " + want);
         }
     }
 

@@ -29,7 +29,6 @@ public final class PromisesTest {
         test.rank();
         test.rankOfFirstAndLast();
         test.rankOverLayers();
-        test.longRanks();
         test.ways();
         test.proof();
         test.proofChoosesLeast();
@@ -40,28 +39,12 @@ public final class PromisesTest {
         test.due.end();
     }
 
-    /** Relations 0 (two places: steps), 1 (two places: ways along them), 2 (one place), 3 (no place). */
     private static StrataHouse relations() {
-        StrataHouse x = new StrataHouse();
-        x.relation(2);
-        x.relation(2);
-        x.relation(1);
-        x.relation(0);
-        return x;
+        return Stories.told(Stories::relations);
     }
 
-    /** Steps 0 to 1 to .. to 5, and relation 1 as all that can be reached. */
     private static StrataHouse chain() {
-        StrataHouse x = relations();
-        for (int i = 0; i < 5; i++) {
-            x.give(0, i, i + 1);
-        }
-        x.rule(1, 20, 21);
-        x.literal(0, 20, 21, false);
-        x.rule(1, 20, 21);
-        x.literal(1, 20, 22, false);
-        x.literal(0, 22, 21, false);
-        return x;
+        return Stories.told(Stories::chain);
     }
 
     private static Due.Call unrule(StrataHouse x) {
@@ -419,35 +402,6 @@ public final class PromisesTest {
         due.is("rounds go on", () -> x.rank(4, 5, 0), 3);
         x.give(0, 5, 0);
         due.is("what denies takes away", () -> x.rank(2, 3, 0), StrataHouse.NONE);
-    }
-
-    /** Relation 1 counts from 0 to 143 in twelves, then 2 does, and so on to 4: a fact a round. */
-    private void longRanks() {
-        StrataHouse x = new StrataHouse();
-        for (int i = 0; i < 5; i++) {
-            x.relation(2);
-        }
-        for (int i = 0; i < 11; i++) {
-            x.give(0, i, i + 1);
-        }
-        for (int i = 1; i < 5; i++) {
-            x.rule(i, 20, 22);
-            x.literal(i, 20, 21, false);
-            x.literal(0, 21, 22, false);
-            x.rule(i, 22, 0);
-            x.literal(i, 20, 11, false);
-            x.literal(0, 20, 22, false);
-            x.rule(i, 0, 0);
-            if (i > 1) {
-                x.literal(i - 1, 11, 11, false);
-            }
-        }
-        due.is("the first", () -> x.rank(1, 0, 0), 1);
-        due.is("the hundredth", () -> x.rank(1, 8, 3), 100);
-        due.is("the last", () -> x.rank(4, 11, 11), 576);
-        due.is("its proof", () -> x.proof(4, 11, 11, 2), 10);
-        due.is("its rule", () -> x.proof(4, 11, 11, 0), 9);
-        due.is("the first of the last", () -> x.proof(4, 0, 0, 0), 11);
     }
 
     private void ways() {
