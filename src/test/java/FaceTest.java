@@ -35,10 +35,39 @@ public final class FaceTest {
         due.same("the members", String.join("\n", openMembers()), String.join("\n", want));
         due.same("the class", Modifier.toString(StrataHouse.class.getModifiers()), "public final");
         due.is("NONE", () -> StrataHouse.NONE, -1);
+        checkRules(due, StrataHouse.class);
         for (Class<?> inside : StrataHouse.class.getDeclaredClasses()) {
             due.is(inside.getName() + " is static", () -> Due.bit(Modifier.isStatic(inside.getModifiers())), 1);
+            checkRules(due, inside);
         }
         due.end();
+    }
+
+    /** Rules 1, 5 and 11 of LANGUAGE.md, as far as the compiled class shows them. */
+    private static void checkRules(Due due, Class<?> part) {
+        int held = 0;
+        for (Field field : part.getDeclaredFields()) {
+            boolean isStatic = Modifier.isStatic(field.getModifiers());
+            held += isStatic ? 0 : 1;
+            due.same(field + " static but not final",
+                    String.valueOf(isStatic && !Modifier.isFinal(field.getModifiers())), "false");
+        }
+        due.same(part + " with more than twenty fields", String.valueOf(held > 20), "false");
+        for (Method method : part.getDeclaredMethods()) {
+            due.same(method + " private with the name of a public one",
+                    String.valueOf(Modifier.isPrivate(method.getModifiers()) && isOfTheFace(method.getName())), "false");
+            due.same(method + " with more than seven parameters",
+                    String.valueOf(method.getParameterCount() > 7), "false");
+        }
+    }
+
+    private static boolean isOfTheFace(String name) {
+        for (Method method : StrataHouse.class.getDeclaredMethods()) {
+            if (Modifier.isPublic(method.getModifiers()) && method.getName().equals(name)) {
+                return true;
+            }
+        }
+        return false;
     }
 
     private static Set<String> openMembers() {
